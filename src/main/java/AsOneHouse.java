@@ -47,7 +47,7 @@ public final class AsOneHouse {
 
     public AsOneHouse() {
         tape = new byte[TAPE_MOST];
-        parser = new Parser();
+        parser = new Parser(tape);
         engine = new Engine();
         arbiter = new Arbiter();
         tapeLength = 0;
@@ -93,7 +93,7 @@ public final class AsOneHouse {
         if (runner.state == INSIDE) {
             throw new IllegalStateException("the thread is within a block");
         }
-        if (!parser.parse(tape, length)) {
+        if (!parser.parse(length)) {
             brokenAt = parser.brokenAt;
             throw new UnsupportedOperationException("the text is broken");
         }
@@ -322,7 +322,7 @@ public final class AsOneHouse {
         }
     }
 
-    /** Cuts a text into tokens, one at a time. */
+    /** Cuts a text into tokens, and goes from one to the next. */
     private static final class Scanner {
         static final int NO_MORE = 0;
         static final int BAD = 1;
@@ -361,39 +361,40 @@ public final class AsOneHouse {
         private final int[] kinds;
         private final int[] begins;
         private final int[] values;
+        private int tokens;
         private int cursor;
         /** Of the token at which the cursor is. */
         int kind;
         int begin;
         int value;
 
-        Scanner() {
-            text = new byte[TAPE_MOST];
+        Scanner(byte[] bytes) {
+            text = bytes;
             kinds = new int[TOKENS_MOST];
             begins = new int[TOKENS_MOST];
             values = new int[TOKENS_MOST];
         }
 
-        void read(byte[] bytes, int size) {
-            length = 0;
-            for (int i = 0; i < size && i < bytes.length && i < text.length; i++) {
-                text[i] = bytes[i];
-                length = i + 1;
-            }
+        /** Cuts the text's first bytes, and goes to the first token. */
+        void read(int size) {
+            length = size;
             next = 0;
-            for (int i = 0; i < TOKENS_MOST; i++) {
+            kind = BAD;
+            tokens = 0;
+            for (int i = 0; i < TOKENS_MOST && kind != NO_MORE; i++) {
                 scan();
                 kinds[i] = kind;
                 begins[i] = begin;
                 values[i] = value;
+                tokens = i + 1;
             }
             cursor = -1;
             advance();
         }
 
-        /** Goes to the next token; behind the last one all are the end of the text. */
+        /** Goes to the next token; the last one, the end of the text, is never left. */
         void advance() {
-            if (cursor < TOKENS_MOST - 1) {
+            if (cursor < tokens - 1) {
                 cursor++;
             }
             if (cursor >= 0 && cursor < TOKENS_MOST) {
@@ -524,17 +525,17 @@ public final class AsOneHouse {
         final Code code;
         int brokenAt;
 
-        Parser() {
-            scanner = new Scanner();
+        Parser(byte[] text) {
+            scanner = new Scanner(text);
             // No token becomes more than one instruction.
             code = new Code(TAPE_MOST);
             brokenAt = -1;
         }
 
-        boolean parse(byte[] text, int length) {
+        boolean parse(int length) {
             code.clear();
             brokenAt = -1;
-            scanner.read(text, length);
+            scanner.read(length);
             return statements(false, 0) && (scanner.kind == Scanner.NO_MORE || broken());
         }
 
@@ -1579,9 +1580,10 @@ public final class AsOneHouse {
                     return DID_ACT;
                 }
             }
-            if (way == BY_CLOCK && places.version[place] > r.startClock || way == BY_VALUES && isStale(r)) {
-                int k = outermostWrong(r);
-                restart(r, k >= 0 ? k : r.depth - 1);
+            boolean isLate = way == BY_CLOCK && places.version[place] > r.startClock;
+            int wrong = isLate || way == BY_VALUES ? outermostWrong(r) : -1;
+            if (isLate || wrong >= 0) {
+                restart(r, wrong >= 0 ? wrong : r.depth - 1);
                 return DID_CONFLICT;
             }
             if (way == BY_VALUES) {
@@ -1645,12 +1647,11 @@ public final class AsOneHouse {
             return runners[holder].firstTurn > r.firstTurn ? holder : r.thread;
         }
 
-        /** By values: whether something came since its start that makes a read wrong. */
-        private boolean isStale(Runner r) {
-            return places.clock != r.startClock && outermostWrong(r) >= 0;
-        }
-
+        /** The outermost level that has a wrong read, -1 if there is none. */
         private int outermostWrong(Runner r) {
+            if (way == BY_VALUES && places.clock == r.startClock) {
+                return -1;
+            }
             for (int k = 0; k < r.depth; k++) {
                 Level level = r.level(k);
                 for (int i = 0; i < level.reads && i < PLACES; i++) {
@@ -1810,7 +1811,7 @@ public final class AsOneHouse {
                     return false;
                 }
             }
-            int wrong = way != BY_VALUES || isStale(r) ? outermostWrong(r) : -1;
+            int wrong = outermostWrong(r);
             restart(r, wrong);
             return wrong < 0;
         }
