@@ -47,7 +47,7 @@ public final class AsOneHouse {
 
     public AsOneHouse() {
         tape = new byte[TAPE_MOST];
-        parser = new Parser(tape);
+        parser = new Parser();
         engine = new Engine();
         arbiter = new Arbiter();
         tapeLength = 0;
@@ -93,7 +93,7 @@ public final class AsOneHouse {
         if (runner.state == INSIDE) {
             throw new IllegalStateException("the thread is within a block");
         }
-        if (!parser.parse(length)) {
+        if (!parser.parse(tape, length)) {
             brokenAt = parser.brokenAt;
             throw new UnsupportedOperationException("the text is broken");
         }
@@ -355,7 +355,7 @@ public final class AsOneHouse {
 
         private static final int TOKENS_MOST = TAPE_MOST + 1;
 
-        private final byte[] text;
+        private byte[] text;
         private int length;
         private int next;
         private final int[] kinds;
@@ -368,15 +368,16 @@ public final class AsOneHouse {
         int begin;
         int value;
 
-        Scanner(byte[] bytes) {
-            text = bytes;
+        Scanner() {
+            text = new byte[0];
             kinds = new int[TOKENS_MOST];
             begins = new int[TOKENS_MOST];
             values = new int[TOKENS_MOST];
         }
 
         /** Cuts the text's first bytes, and goes to the first token. */
-        void read(int size) {
+        void read(byte[] bytes, int size) {
+            text = bytes;
             length = size;
             next = 0;
             kind = BAD;
@@ -525,17 +526,17 @@ public final class AsOneHouse {
         final Code code;
         int brokenAt;
 
-        Parser(byte[] text) {
-            scanner = new Scanner(text);
+        Parser() {
+            scanner = new Scanner();
             // No token becomes more than one instruction.
             code = new Code(TAPE_MOST);
             brokenAt = -1;
         }
 
-        boolean parse(int length) {
+        boolean parse(byte[] text, int length) {
             code.clear();
             brokenAt = -1;
-            scanner.read(length);
+            scanner.read(text, length);
             return statements(false, 0) && (scanner.kind == Scanner.NO_MORE || broken());
         }
 
@@ -1205,29 +1206,24 @@ public final class AsOneHouse {
         }
 
         void addRead(int place, int v) {
-            int i = size - 1;
-            if (!isKept || i < 0 || i >= RECORDS_MOST) {
-                return;
-            }
-            int n = reads[i];
-            if (i < JUDGED_MOST && n >= 0 && n < PLACES) {
-                readPlace[i][n] = place;
-                readValue[i][n] = v;
-            }
-            reads[i] = n + 1;
+            note(reads, readPlace, readValue, place, v);
         }
 
         void addWrite(int place, int v) {
+            note(writes, writePlace, writeValue, place, v);
+        }
+
+        private void note(int[] counts, int[][] placesOf, int[][] valuesOf, int place, int v) {
             int i = size - 1;
-            if (!isKept || i < 0 || i >= RECORDS_MOST) {
+            if (!isKept || i < 0 || i >= RECORDS_MOST || i >= counts.length) {
                 return;
             }
-            int n = writes[i];
-            if (i < JUDGED_MOST && n >= 0 && n < PLACES) {
-                writePlace[i][n] = place;
-                writeValue[i][n] = v;
+            int n = counts[i];
+            if (i < JUDGED_MOST && i < placesOf.length && i < valuesOf.length && n >= 0 && n < PLACES) {
+                placesOf[i][n] = place;
+                valuesOf[i][n] = v;
             }
-            writes[i] = n + 1;
+            counts[i] = n + 1;
         }
 
         int tellOf(int i, int what) {

@@ -155,6 +155,10 @@ public final class ModelTest {
     private String text() {
         StringBuilder s = new StringBuilder();
         statements(s, 2 + random.nextInt(3), 0, false, false);
+        if (random.nextInt(12) == 0) {
+            s.setLength(0);
+            soup(s);
+        }
         if (s.length() > 990) {
             s.setLength(990);
         }
@@ -168,6 +172,22 @@ public final class ModelTest {
             }
         }
         return s.toString();
+    }
+
+    /** Tokens that mostly may stand where they are, deep within one another. */
+    private void soup(StringBuilder s) {
+        String[] openings = {"atom {", "part{ ", "if (", "while(", "x = (", "A=-", "try {", "{", "(", "-", "say -("};
+        String[] others = {"x", "A", "12", "=", "==", "<", "+", "*", ";", ")", "}", "or {", "else{", "catch C {",
+            "retry;", "quit;", "fail 1;", "x = y;", "1000001", "\n", "zz"};
+        for (int n = random.nextInt(14); n > 0; n--) {
+            s.append(openings[random.nextInt(random.nextBoolean() ? 2 : openings.length)]);
+        }
+        for (int n = random.nextInt(6); n > 0; n--) {
+            s.append(others[random.nextInt(others.length)]);
+        }
+        for (int n = random.nextInt(14); n > 0; n--) {
+            s.append("}");
+        }
     }
 
     private void block(StringBuilder s, int most, int depth, boolean within, boolean tried) {
