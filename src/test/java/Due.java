@@ -1,4 +1,8 @@
+import java.io.IOException;
+import java.nio.file.Files;
+import java.nio.file.Path;
 import java.util.function.IntSupplier;
+import java.util.regex.Pattern;
 
 /** What the tests share: a house that is told programs as texts, and answers held against what is due. */
 final class Due {
@@ -10,8 +14,32 @@ final class Due {
 
     private static int wrong = 0;
     private static int asked = 0;
+    private static String sentence = "";
+    private static String document = "";
 
     private Due() {
+    }
+
+    /** What follows tests a sentence of the document, or a part of one, whose very words must stand there. */
+    static void sentence(String words) {
+        sentence = words;
+        is("these words stand in the document", 1, document().contains(words) ? 1 : 0);
+    }
+
+    /** Whether the document has something of that form. */
+    static boolean documentHas(String pattern) {
+        return Pattern.compile(pattern).matcher(document()).find();
+    }
+
+    private static String document() {
+        if (document.isEmpty()) {
+            try {
+                document = Files.readString(Path.of("../shared/DOC.md"));
+            } catch (IOException e) {
+                throw new IllegalStateException("run from the project's folder, beside ../shared", e);
+            }
+        }
+        return document;
     }
 
     static void is(String what, int due, IntSupplier call) {
@@ -19,6 +47,9 @@ final class Due {
         asked++;
         if (got != due) {
             wrong++;
+            if (!sentence.isEmpty()) {
+                System.out.println("\"" + sentence + "\":");
+            }
             System.out.println(what + ": answered " + name(got) + ", due is " + name(due));
         }
     }
@@ -103,5 +134,47 @@ final class Due {
             n++;
             is(what + ", turn " + n + " of thread " + thread, due, () -> house.turn(thread));
         }
+    }
+
+    /** A text that may stand, told to a new house. */
+    static void stands(String text, int statements) {
+        AsOneHouse house = new AsOneHouse();
+        is("'" + text + "'", statements, () -> tell(house, 0, text));
+        is("place of '" + text + "'", -1, house::place);
+        is("'" + text + "' is ready", 1, () -> house.look(0, 0));
+    }
+
+    /** A text that is broken at that place, told to a new house. */
+    static void broken(String text, int place) {
+        AsOneHouse house = new AsOneHouse();
+        is("'" + text + "'", UNSUPPORTED, () -> tell(house, 0, text));
+        is("place of '" + text + "'", place, house::place);
+        is("'" + text + "' is no program", 0, () -> house.look(0, 0));
+    }
+
+    /** What look tells of a thread, from what 0 on, as many as are due. */
+    static void looks(AsOneHouse house, int thread, String what, int... due) {
+        for (int i = 0; i < due.length; i++) {
+            int w = i;
+            is(what + ": look " + thread + ", " + w, due[i], () -> house.look(thread, w));
+        }
+    }
+
+    /** What record tells of a record, from what 0 on, as many as are due. */
+    static void record(AsOneHouse house, int i, String what, int... due) {
+        for (int k = 0; k < due.length; k++) {
+            int w = k;
+            is(what + ": record " + i + ", " + w, due[k], () -> house.record(i, w));
+        }
+    }
+
+    /** The whole order, and nothing before or behind it. */
+    static void order(AsOneHouse house, String what, int... due) {
+        for (int i = 0; i < due.length; i++) {
+            int at = i;
+            is(what + ": order " + i, due[i], () -> house.order(at));
+        }
+        is(what + ": order ends", INDEX, () -> house.order(due.length));
+        is(what + ": none at -1", INDEX, () -> house.order(-1));
     }
 }

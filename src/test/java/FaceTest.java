@@ -15,6 +15,7 @@ public final class FaceTest {
 
     public static void main(String[] args) {
         theFaceIsTheDocuments();
+        theFaceThrowsWhatItTells();
         aNewObjectIsEmpty();
         Due.end();
     }
@@ -50,6 +51,25 @@ public final class FaceTest {
         for (Class<?> inside : c.getDeclaredClasses()) {
             Due.is("static: " + inside, 1, Modifier.isStatic(inside.getModifiers()) ? 1 : 0);
         }
+    }
+
+    private static void theFaceThrowsWhatItTells() {
+        Due.sentence("## The public face");
+        for (Method m : AsOneHouse.class.getDeclaredMethods()) {
+            if (Modifier.isPublic(m.getModifiers())) {
+                StringBuilder s = new StringBuilder(" " + m.getName() + "(");
+                for (Class<?> p : m.getParameterTypes()) {
+                    s.append(s.charAt(s.length() - 1) == '(' ? "" : ", ").append(p).append(" \\w+");
+                }
+                s.append(")");
+                for (Class<?> e : m.getExceptionTypes()) {
+                    s.append(s.charAt(s.length() - 1) == ')' ? " throws " : ", ").append(e.getSimpleName());
+                }
+                String pattern = s.append(";").toString().replace("(", "\\(").replace(")", "\\)");
+                Due.is(m.getName() + " as in the document", 1, Due.documentHas(pattern) ? 1 : 0);
+            }
+        }
+        Due.sentence("`AsOneHouse()`: No PROGRAMS, WAY 0.");
     }
 
     private static void aNewObjectIsEmpty() {

@@ -9,117 +9,103 @@ public final class ProgramTest {
         Due.end();
     }
 
-    private static void stands(String text, int statements) {
-        AsOneHouse h = new AsOneHouse();
-        Due.is("'" + text + "'", statements, () -> Due.tell(h, 0, text));
-        Due.is("place of '" + text + "'", -1, h::place);
-        Due.is("ready", 1, () -> h.look(0, 0));
-    }
-
-    private static void broken(String text, int place) {
-        AsOneHouse h = new AsOneHouse();
-        Due.is("'" + text + "'", Due.UNSUPPORTED, () -> Due.tell(h, 0, text));
-        Due.is("place of '" + text + "'", place, h::place);
-        Due.is("no program", 0, () -> h.look(0, 0));
-    }
-
     private static void textsThatStand() {
-        stands("", 0);
-        stands(" \n ", 0);
-        stands("x=1;", 1);
-        stands("A = B;", 1);
-        stands("a=1000000;", 1);
-        stands("a=0000000000000000000001000000;", 1);
-        stands("a=-1000000;", 1);
-        stands("a=x==y;", 1);
-        stands("a=x<y;", 1);
-        stands("a=x+y-z*2;", 1);
-        stands("if(x){}", 1);
-        stands("if(x){}else{x=1;}", 2);
-        stands("while(0){say 1;}", 2);
-        stands("atom{}", 1);
-        stands("atom{}or{}", 1);
-        stands("part{quit;}or{retry;}", 3);
-        stands("atom{if(x){retry;}else{quit;}}", 4);
-        stands("atom{try{retry;}catch Z{quit;}}", 4);
-        stands("try{fail 1;}catch A{fail A;}", 3);
-        stands("fail 1;", 1);
-        stands("say(1);", 1);
-        stands("x=12y=1;".replace("y", ";y"), 2);
+        Due.stands("", 0);
+        Due.stands(" \n ", 0);
+        Due.stands("x=1;", 1);
+        Due.stands("A = B;", 1);
+        Due.stands("a=1000000;", 1);
+        Due.stands("a=0000000000000000000001000000;", 1);
+        Due.stands("a=-1000000;", 1);
+        Due.stands("a=x==y;", 1);
+        Due.stands("a=x<y;", 1);
+        Due.stands("a=x+y-z*2;", 1);
+        Due.stands("if(x){}", 1);
+        Due.stands("if(x){}else{x=1;}", 2);
+        Due.stands("while(0){say 1;}", 2);
+        Due.stands("atom{}", 1);
+        Due.stands("atom{}or{}", 1);
+        Due.stands("part{quit;}or{retry;}", 3);
+        Due.stands("atom{if(x){retry;}else{quit;}}", 4);
+        Due.stands("atom{try{retry;}catch Z{quit;}}", 4);
+        Due.stands("try{fail 1;}catch A{fail A;}", 3);
+        Due.stands("fail 1;", 1);
+        Due.stands("say(1);", 1);
+        Due.stands("x=12y=1;".replace("y", ";y"), 2);
         StringBuilder most = new StringBuilder();
         for (int i = 0; i < 250; i++) {
             most.append("A=1;");
         }
-        stands(most.toString(), 250);
+        Due.stands(most.toString(), 250);
     }
 
     private static void textsThatAreBroken() {
-        broken("x", 1);
-        broken("x ", 2);
-        broken("x=", 2);
-        broken("x= \n", 4);
-        broken("x=1", 3);
-        broken("x=;", 2);
-        broken("x==1;", 1);
-        broken("x=1;;", 4);
-        broken("x=1 y=2;", 4);
-        broken("x=1==2==3;", 6);
-        broken("x=1<2<3;", 5);
-        broken("x=1<2==3;", 5);
-        broken("x=1==2;=", 7);
-        broken("x=+1;", 2);
-        broken("x=1+;", 4);
-        broken("x=1*;", 4);
-        broken("x=1*+2;", 4);
-        broken("x=(1;", 4);
-        broken("x=1);", 3);
-        broken("x=();", 3);
-        broken("x=1000001;", 2);
-        broken("x=99999999999999999999;", 2);
-        broken("x=12a;", 4);
-        broken("xy=1;", 0);
-        broken("x=xy;", 2);
-        broken("x=1;foo", 4);
-        broken("IF(x){}", 0);
-        broken("x\t=1;", 1);
-        broken("x=1;\r", 4);
-        broken("x=1;\0", 4);
-        broken("x=1;\u00e9", 4);
-        broken("1=x;", 0);
-        broken("}", 0);
-        broken("x=1;}", 4);
-        broken("{x=1;}", 0);
-        broken("if x {}", 3);
-        broken("if(){}", 3);
-        broken("if(x)y=1;", 5);
-        broken("if(x){", 6);
-        broken("if(x){}else", 11);
-        broken("if(x){}else y=1;", 12);
-        broken("else{}", 0);
-        broken("while(x)", 8);
-        broken("while x", 6);
-        broken("say;", 3);
-        broken("say 1", 5);
-        broken("atom x=1;", 5);
-        broken("atom{x=1;", 9);
-        broken("atom{}or", 8);
-        broken("atom{}or{}or{}", 10);
-        broken("or{}", 0);
-        broken("retry;", 0);
-        broken("quit;", 0);
-        broken("atom{}retry;", 6);
-        broken("atom{}or{}quit;", 10);
-        broken("try{quit;}catch A{}", 4);
-        broken("atom{retry}", 10);
-        broken("atom{quit 1;}", 10);
-        broken("fail;", 4);
-        broken("try{}", 5);
-        broken("try{}x=1;", 5);
-        broken("try{}catch", 10);
-        broken("try{}catch x{}", 11);
-        broken("try{}catch A", 12);
-        broken("try{}catch AB{}", 11);
-        broken("catch A{}", 0);
+        Due.broken("x", 1);
+        Due.broken("x ", 2);
+        Due.broken("x=", 2);
+        Due.broken("x= \n", 4);
+        Due.broken("x=1", 3);
+        Due.broken("x=;", 2);
+        Due.broken("x==1;", 1);
+        Due.broken("x=1;;", 4);
+        Due.broken("x=1 y=2;", 4);
+        Due.broken("x=1==2==3;", 6);
+        Due.broken("x=1<2<3;", 5);
+        Due.broken("x=1<2==3;", 5);
+        Due.broken("x=1==2;=", 7);
+        Due.broken("x=+1;", 2);
+        Due.broken("x=1+;", 4);
+        Due.broken("x=1*;", 4);
+        Due.broken("x=1*+2;", 4);
+        Due.broken("x=(1;", 4);
+        Due.broken("x=1);", 3);
+        Due.broken("x=();", 3);
+        Due.broken("x=1000001;", 2);
+        Due.broken("x=99999999999999999999;", 2);
+        Due.broken("x=12a;", 4);
+        Due.broken("xy=1;", 0);
+        Due.broken("x=xy;", 2);
+        Due.broken("x=1;foo", 4);
+        Due.broken("IF(x){}", 0);
+        Due.broken("x\t=1;", 1);
+        Due.broken("x=1;\r", 4);
+        Due.broken("x=1;\0", 4);
+        Due.broken("x=1;\u00e9", 4);
+        Due.broken("1=x;", 0);
+        Due.broken("}", 0);
+        Due.broken("x=1;}", 4);
+        Due.broken("{x=1;}", 0);
+        Due.broken("if x {}", 3);
+        Due.broken("if(){}", 3);
+        Due.broken("if(x)y=1;", 5);
+        Due.broken("if(x){", 6);
+        Due.broken("if(x){}else", 11);
+        Due.broken("if(x){}else y=1;", 12);
+        Due.broken("else{}", 0);
+        Due.broken("while(x)", 8);
+        Due.broken("while x", 6);
+        Due.broken("say;", 3);
+        Due.broken("say 1", 5);
+        Due.broken("atom x=1;", 5);
+        Due.broken("atom{x=1;", 9);
+        Due.broken("atom{}or", 8);
+        Due.broken("atom{}or{}or{}", 10);
+        Due.broken("or{}", 0);
+        Due.broken("retry;", 0);
+        Due.broken("quit;", 0);
+        Due.broken("atom{}retry;", 6);
+        Due.broken("atom{}or{}quit;", 10);
+        Due.broken("try{quit;}catch A{}", 4);
+        Due.broken("atom{retry}", 10);
+        Due.broken("atom{quit 1;}", 10);
+        Due.broken("fail;", 4);
+        Due.broken("try{}", 5);
+        Due.broken("try{}x=1;", 5);
+        Due.broken("try{}catch", 10);
+        Due.broken("try{}catch x{}", 11);
+        Due.broken("try{}catch A", 12);
+        Due.broken("try{}catch AB{}", 11);
+        Due.broken("catch A{}", 0);
     }
 
     private static String times(String s, int n) {
@@ -127,26 +113,26 @@ public final class ProgramTest {
     }
 
     private static void nesting() {
-        stands("x=" + times("(", 10) + "1" + times(")", 10) + ";", 1);
-        broken("x=" + times("(", 11) + "1" + times(")", 11) + ";", 12);
-        stands("x=" + times("-", 10) + "1;", 1);
-        broken("x=" + times("-", 11) + "1;", 12);
-        stands("x=" + times("-(", 5) + "1" + times(")", 5) + ";", 1);
-        broken("x=" + times("-(", 5) + "-1" + times(")", 5) + ";", 12);
-        stands("x=1" + times("-1", 40) + times("*(1)", 40) + ";", 1);
-        stands(times("atom{", 10) + times("}", 10), 10);
-        broken(times("atom{", 11) + times("}", 11), 54);
-        stands(times("atom{", 9) + "x=(1);y=-1;" + times("}", 9), 11);
-        stands(times("atom{", 10) + "x=1;" + times("}", 10), 11);
-        broken(times("atom{", 10) + "x=(1);" + times("}", 10), 52);
-        broken(times("atom{", 10) + "x=-1;" + times("}", 10), 52);
-        broken(times("atom{", 10) + "if(x){}" + times("}", 10), 52);
-        broken(times("atom{", 10) + "while(x){}" + times("}", 10), 55);
-        stands(times("atom{", 9) + "if(x){}else{}" + times("}", 9), 10);
-        broken(times("atom{", 9) + "if((x)){}" + times("}", 9), 48);
-        broken(times("atom{", 9) + "if(x){if(x){}}" + times("}", 9), 53);
-        stands("if(" + times("(", 9) + "x" + times(")", 9) + "){}", 1);
-        broken("if(" + times("(", 10) + "x" + times(")", 10) + "){}", 12);
+        Due.stands("x=" + times("(", 10) + "1" + times(")", 10) + ";", 1);
+        Due.broken("x=" + times("(", 11) + "1" + times(")", 11) + ";", 12);
+        Due.stands("x=" + times("-", 10) + "1;", 1);
+        Due.broken("x=" + times("-", 11) + "1;", 12);
+        Due.stands("x=" + times("-(", 5) + "1" + times(")", 5) + ";", 1);
+        Due.broken("x=" + times("-(", 5) + "-1" + times(")", 5) + ";", 12);
+        Due.stands("x=1" + times("-1", 40) + times("*(1)", 40) + ";", 1);
+        Due.stands(times("atom{", 10) + times("}", 10), 10);
+        Due.broken(times("atom{", 11) + times("}", 11), 54);
+        Due.stands(times("atom{", 9) + "x=(1);y=-1;" + times("}", 9), 11);
+        Due.stands(times("atom{", 10) + "x=1;" + times("}", 10), 11);
+        Due.broken(times("atom{", 10) + "x=(1);" + times("}", 10), 52);
+        Due.broken(times("atom{", 10) + "x=-1;" + times("}", 10), 52);
+        Due.broken(times("atom{", 10) + "if(x){}" + times("}", 10), 52);
+        Due.broken(times("atom{", 10) + "while(x){}" + times("}", 10), 55);
+        Due.stands(times("atom{", 9) + "if(x){}else{}" + times("}", 9), 10);
+        Due.broken(times("atom{", 9) + "if((x)){}" + times("}", 9), 48);
+        Due.broken(times("atom{", 9) + "if(x){if(x){}}" + times("}", 9), 53);
+        Due.stands("if(" + times("(", 9) + "x" + times(")", 9) + "){}", 1);
+        Due.broken("if(" + times("(", 10) + "x" + times(")", 10) + "){}", 12);
     }
 
     private static void whoMayBeTold() {

@@ -20,26 +20,19 @@ public final class WaysTest {
         Due.end();
     }
 
-    private static void look(AsOneHouse h, int thread, String what, int... due) {
-        for (int i = 0; i < due.length; i++) {
-            int w = i;
-            Due.is(what + ": look " + thread + ", " + w, due[i], () -> h.look(thread, w));
-        }
-    }
-
     private static void clockLook() {
         AsOneHouse h = Due.house(0);
         h.put(24, 1);
         Due.tell(h, 0, "A = 5; atom { A = x; x = y; }");
         Due.turns(h, "clock", "0:0 0:0");
-        look(h, 0, "within", 2, 1, 1, 0, 0, 1, 0, 0);
+        Due.looks(h, 0, "within", 2, 1, 1, 0, 0, 1, 0, 0);
         h.put(25, 1);
         h.put(24, 1);
         Due.turns(h, "y has a later version, though as it was", "0:1");
-        look(h, 0, "restarted", 2, 1, 0, 0, 1, 3, 0, 0);
+        Due.looks(h, 0, "restarted", 2, 1, 0, 0, 1, 3, 0, 0);
         Due.is("A is as it was", 5, () -> h.register(0, 0));
         Due.turns(h, "clock", "0:0 0:0 0:0 0:0 0:2");
-        look(h, 0, "over", 4, 0, 0, 0, 1, 0, 0, 1);
+        Due.looks(h, 0, "over", 4, 0, 0, 0, 1, 0, 0, 1);
         Due.is("x", 1, () -> h.has(23));
         Due.is("clock", 4, () -> h.count(2));
         Due.is("from the restart on", 2, () -> h.record(0, 3));
@@ -65,17 +58,17 @@ public final class WaysTest {
         AsOneHouse h = Due.house(0);
         Due.tell(h, 0, "atom { A = x; part { B = y; B = z; } C = 1; }");
         Due.turns(h, "x, y", "0:0 0:0 0:0");
-        look(h, 0, "two levels", 2, 2, 2, 0, 0, 0, 0, 0);
+        Due.looks(h, 0, "two levels", 2, 2, 2, 0, 0, 0, 0, 0);
         h.put(25, 3);
         Due.turns(h, "no read is wrong: the innermost restarts", "0:1");
-        look(h, 0, "the part is at its begin", 2, 2, 1, 0, 1, 1, 0, 0);
+        Due.looks(h, 0, "the part is at its begin", 2, 2, 1, 0, 1, 1, 0, 0);
         h.put(24, 4);
         h.put(25, 5);
         Due.turns(h, "y is late itself", "0:1 0:0");
         h.put(23, 9);
         h.put(25, 6);
         Due.turns(h, "the outermost that is wrong", "0:1");
-        look(h, 0, "whole", 2, 1, 0, 0, 3, 5, 0, 0);
+        Due.looks(h, 0, "whole", 2, 1, 0, 0, 3, 5, 0, 0);
         Due.turns(h, "again", "0:0 0:0 0:0 0:0 0:2");
         Due.is("B", 6, () -> h.register(0, 1));
     }
@@ -87,20 +80,20 @@ public final class WaysTest {
         h.put(23, 5);
         h.put(23, 0);
         Due.turns(h, "x has again what it had", "0:0");
-        look(h, 0, "start is the clock", 2, 1, 2, 0, 0, 2, 0, 0);
+        Due.looks(h, 0, "start is the clock", 2, 1, 2, 0, 0, 2, 0, 0);
         Due.turns(h, "x in the part", "0:0");
-        look(h, 0, "a read of the part too", 2, 2, 3, 0, 0, 2, 0, 0);
+        Due.looks(h, 0, "a read of the part too", 2, 2, 3, 0, 0, 2, 0, 0);
         h.put(24, 8);
         Due.turns(h, "y is wrong", "0:1");
-        look(h, 0, "whole", 2, 1, 0, 0, 1, 3, 0, 0);
+        Due.looks(h, 0, "whole", 2, 1, 0, 0, 1, 3, 0, 0);
         Due.turns(h, "x, y, x", "0:0 0:0 0:0");
         h.put(25, 2);
         Due.turns(h, "z itself may be late", "0:0");
-        look(h, 0, "start", 2, 2, 4, 0, 1, 4, 0, 0);
+        Due.looks(h, 0, "start", 2, 2, 4, 0, 1, 4, 0, 0);
         Due.is("D", 0, () -> h.register(0, 3));
         Due.turns(h, "write: the part has ended", "0:0");
         Due.is("D", 2, () -> h.register(0, 3));
-        look(h, 0, "one of each place", 2, 1, 3, 1, 1, 4, 0, 0);
+        Due.looks(h, 0, "one of each place", 2, 1, 3, 1, 1, 4, 0, 0);
         Due.turns(h, "end", "0:0");
         Due.is("reads", 3, () -> h.record(0, 1));
         Due.is("writes", 1, () -> h.record(0, 2));
@@ -172,7 +165,7 @@ public final class WaysTest {
         Due.turns(h, "0 began first", "0:0 0:0 1:0 1:0");
         Due.is("taken", 2, () -> h.count(8));
         Due.turns(h, "1 began later and loses", "1:1");
-        look(h, 1, "it restarted wholly", 2, 1, 0, 0, 1, 1, 0, 0);
+        Due.looks(h, 1, "it restarted wholly", 2, 1, 0, 0, 1, 1, 0, 0);
         Due.is("z is free, at a clock of its own", 1, () -> h.count(2));
         Due.is("z", 0, () -> h.has(25));
         Due.is("taken", 1, () -> h.count(8));
@@ -192,15 +185,15 @@ public final class WaysTest {
         Due.tell(h, 0, "atom { y = 1; x = x + 1; }");
         Due.tell(h, 1, "A = 3; atom { A = 4; x = 9; part { x = 10; say 1; z = 1; } }");
         Due.turns(h, "0 began first, 1 takes x", "0:0 1:0 1:0 1:0 1:0 1:0 0:0");
-        look(h, 1, "within its part", 2, 2, 0, 2, 0, 1, 0, 0);
+        Due.looks(h, 1, "within its part", 2, 2, 0, 2, 0, 1, 0, 0);
         Due.is("x", 10, () -> h.has(23));
         Due.turns(h, "0 looks at x: 1 restarts at once", "0:0");
-        look(h, 1, "at its begin", 2, 1, 0, 0, 1, 2, 0, 0);
+        Due.looks(h, 1, "at its begin", 2, 1, 0, 0, 1, 2, 0, 0);
         Due.is("A of 1", 3, () -> h.register(1, 0));
         Due.is("x", 4, () -> h.has(23));
         Due.is("clock", 2, () -> h.count(2));
         Due.is("y alone is taken", 1, () -> h.count(8));
-        look(h, 0, "0 has read", 2, 1, 1, 1, 0, 1, 0, 0);
+        Due.looks(h, 0, "0 has read", 2, 1, 1, 1, 0, 1, 0, 0);
         Due.turns(h, "0 ends", "0:0 0:0");
         Due.is("x", 5, () -> h.has(23));
         Due.turns(h, "1 goes on behind its begin", "1:0 1:0 1:0 1:0 1:0 1:2");
@@ -222,7 +215,7 @@ public final class WaysTest {
         Due.turns(h, "x, y, z, z", "0:0 0:0 0:0 0:0");
         h.put(24, 1);
         Due.turns(h, "what it has taken it may look at; the end finds it", "0:0 0:1");
-        look(h, 0, "restarted", 2, 1, 0, 0, 3, 5, 0, 0);
+        Due.looks(h, 0, "restarted", 2, 1, 0, 0, 3, 5, 0, 0);
     }
 
     private static void keptEnd() {
@@ -248,10 +241,10 @@ public final class WaysTest {
         h.put(23, 6);
         Due.tell(h, 0, "atom { part { x = 1; quit; } A = x; }");
         Due.turns(h, "the part quits", "0:0 0:0 0:0");
-        look(h, 0, "no writes", 2, 1, 0, 0, 0, 1, 0, 0);
+        Due.looks(h, 0, "no writes", 2, 1, 0, 0, 0, 1, 0, 0);
         Due.is("x stays taken", 1, () -> h.count(8));
         Due.turns(h, "a look at it is no read", "0:0");
-        look(h, 0, "no reads", 2, 1, 0, 0, 0, 1, 0, 0);
+        Due.looks(h, 0, "no reads", 2, 1, 0, 0, 0, 1, 0, 0);
         Due.is("A, later", 0, () -> h.register(0, 0));
         Due.turns(h, "end", "0:0");
         Due.is("A", 6, () -> h.register(0, 0));
@@ -294,15 +287,15 @@ public final class WaysTest {
         Due.tell(h, 2, "atom { A = z; A = z; }");
         Due.turns(h, "0 sleeps", "0:0 0:0 0:0 0:3");
         Due.is("y was taken, and is free", 1, () -> h.count(2));
-        look(h, 0, "asleep", 3, 0, 1, 0, 0, 0, 0, 0);
+        Due.looks(h, 0, "asleep", 3, 0, 1, 0, 0, 0, 0, 0);
         Due.turns(h, "1 is not busy", "1:0 1:0");
         Due.turns(h, "what another has taken wakes nobody", "0:3");
         Due.turns(h, "1 ends, 2 begins", "1:0 1:0 2:0");
         Due.turns(h, "0 would wake, but 2 is there", "0:4");
-        look(h, 0, "still asleep", 3, 0, 1, 0, 0, 0, 0, 0);
+        Due.looks(h, 0, "still asleep", 3, 0, 1, 0, 0, 0, 0, 0);
         Due.turns(h, "2 ends", "2:0 2:0 2:0");
         Due.turns(h, "0 wakes", "0:6");
-        look(h, 0, "within", 2, 1, 0, 0, 1, 2, 0, 0);
+        Due.looks(h, 0, "within", 2, 1, 0, 0, 1, 2, 0, 0);
         Due.turns(h, "1 would be busy", "1:2 0:0 0:0 0:0 0:2");
         Due.is("y", 5, () -> h.has(24));
     }
