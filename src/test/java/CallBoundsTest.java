@@ -24,6 +24,8 @@ public final class CallBoundsTest {
         programOfOneAsleep();
         programBroken();
         programAsANewOne();
+        programWithinATry();
+        programWithinAnExpression();
         placeOfTheLatestProgram();
         putFrom0To25();
         putOnWhatIsTaken();
@@ -220,6 +222,12 @@ public final class CallBoundsTest {
         h.turn(0);
         h.put(23, 1);
         Due.is("by the clock, without a start", 1, () -> h.turn(0));
+        Due.is("clock", 1, () -> h.count(2));
+        for (int i = 0; i < 26; i++) {
+            int p = i;
+            Due.is("had", p == 23 ? 1 : 0, () -> h.had(p, 1));
+            Due.is("had", 0, () -> h.had(p, 0));
+        }
     }
 
     private static void feedHighestByteFirst() {
@@ -398,6 +406,49 @@ public final class CallBoundsTest {
             Due.is("records stay", records, () -> h.count(5));
             Due.turns(h, "at its begin", "0:0 0:0 0:2");
         }
+    }
+
+    private static void programWithinATry() {
+        Due.sentence("THREADS at the begin of their PROGRAMS");
+        AsOneHouse h = Due.house(0);
+        Due.tell(h, 0, "if(x==0){try{say 1;say 2;}catch A{say 3;}}fail 4;");
+        Due.turns(h, "within its try", "0:0 0:0");
+        h.start(0);
+        h.put(23, 1);
+        Due.turns(h, "it is in no try", "0:0 0:5");
+        Due.is("died with", 4, () -> h.look(0, 6));
+        Due.sentence("The THREAD is as a new one.");
+        Due.tell(h, 1, "try{say 1;say 2;}catch A{say 3;}");
+        Due.turns(h, "within its try", "1:0");
+        Due.tell(h, 1, "fail 5;");
+        Due.turns(h, "it is in no try", "1:5");
+        Due.is("died with", 5, () -> h.look(1, 6));
+        Due.tell(h, 1, "try{say 1;fail 6;}catch A{say A;}");
+        Due.turns(h, "and may be in one again", "1:0 1:0 1:2");
+        Due.is("A", 6, () -> h.register(1, 0));
+    }
+
+    private static void programWithinAnExpression() {
+        Due.sentence("THE TAPE is the PROGRAM of a THREAD, at its begin");
+        // What an expression had in hand when it was left must not stay, however often that comes.
+        AsOneHouse h = Due.house(0);
+        for (int i = 0; i < 20; i++) {
+            Due.tell(h, 0, "A=" + "100+(".repeat(10) + "x" + ")".repeat(10) + ";");
+            Due.turns(h, "x", "0:0");
+        }
+        Due.tell(h, 0, "A=" + "1+(".repeat(10) + "x" + ")".repeat(10) + ";");
+        Due.turns(h, "x, over", "0:0 0:2");
+        Due.is("A", 10, () -> h.register(0, 0));
+        Due.tell(h, 0, "if(x==0){A=" + "100+(".repeat(9) + "y" + ")".repeat(9) + ";}A=" + "1+(".repeat(10) + "y"
+                + ")".repeat(10) + ";");
+        for (int i = 0; i < 20; i++) {
+            h.start(0);
+            Due.turns(h, "x, y", "0:0 0:0");
+        }
+        h.start(0);
+        h.put(23, 1);
+        Due.turns(h, "x, y, over", "0:0 0:0 0:2");
+        Due.is("A", 10, () -> h.register(0, 0));
     }
 
     private static void placeOfTheLatestProgram() {
@@ -665,24 +716,24 @@ public final class CallBoundsTest {
 
     private static void hadOfManyPasts() {
         Due.sentence("What a PLACE had when the CLOCK was clock");
+        AsOneHouse h = new AsOneHouse();
+        // 90 of 91 turns write, up to the 20000th.
+        Due.tell(h, 0, "while(1){" + "A=A+1;x=A;".repeat(90) + "}");
+        int clock = 20000 - (20000 + 90) / 91;
         for (int way = 0; way <= 4; way++) {
-            AsOneHouse h = Due.house(way);
-            // 90 of 91 turns write, up to the 20000th.
-            Due.tell(h, 0, "while(1){" + "A=A+1;x=A;".repeat(90) + "}");
+            h.start(way);
+            Due.is("all is forgotten", Due.ARGUMENT, () -> h.had(23, 1));
             for (int i = 0; i < 10; i++) {
                 Due.is("2000", 2000, () -> h.round(2000));
             }
-            int clock = 20000 - (20000 + 90) / 91;
             Due.is("clock", clock, () -> h.count(2));
-            for (int c = 0; c <= clock; c += 97) {
+            for (int c = 0; c <= clock; c += 997) {
                 int when = c;
-                Due.is("had at " + c, c, () -> h.had(23, when));
+                Due.is("way " + way + ", had at " + c, c, () -> h.had(23, when));
             }
             Due.is("at last", clock, () -> h.had(23, clock));
+            Due.is("another place", 0, () -> h.had(0, clock));
             Due.is("not yet", Due.ARGUMENT, () -> h.had(23, clock + 1));
-            h.start(way);
-            Due.is("all is forgotten", Due.ARGUMENT, () -> h.had(23, 1));
-            Due.is("at first", 0, () -> h.had(23, 0));
         }
     }
 

@@ -15,12 +15,14 @@ public final class TextBoundsTest {
         registersFromAToZ();
         blanks();
         words();
+        wordsByTheirLetters();
         oneLetter();
         numbers();
         theLongestSign();
         anythingElse();
         emptyProgramsAndBlocks();
         statementsThatLackSomething();
+        expressionsThatLackSomething();
         oneElseAndOneOr();
         oneComparison();
         wrapping();
@@ -33,6 +35,7 @@ public final class TextBoundsTest {
         mostStatements();
         brokenAtAPlace();
         brokenAtTheLength();
+        whatWasCutOff();
         Due.end();
     }
 
@@ -175,6 +178,28 @@ public final class TextBoundsTest {
         }
     }
 
+    private static void wordsByTheirLetters() {
+        Due.sentence("or if else while say atom part or retry quit fail try catch");
+        String[] words = {"if", "else", "while", "say", "atom", "part", "or", "or", "retry", "quit", "fail", "try", "catch"};
+        String[] texts = {"if(x){}", "if(x){}else{}", "while(x){}", "say 1;", "atom{}", "part{}", "atom{}or{}",
+            "part{}or{}", "atom{retry;}", "part{quit;}", "fail 1;", "try{}catch A{}", "try{}catch A{}"};
+        for (int i = 0; i < words.length; i++) {
+            int at = texts[i].indexOf(words[i]);
+            for (int k = 0; k < words[i].length(); k++) {
+                char letter = words[i].charAt(k);
+                for (char c : new char[] {'z', Character.toUpperCase(letter), (char) (letter + 1), (char) (letter - 1)}) {
+                    StringBuilder text = new StringBuilder(texts[i]);
+                    text.setCharAt(at + k, c);
+                    Due.is(text + " is broken", Due.UNSUPPORTED, () -> Due.tell(new AsOneHouse(), 0, text.toString()));
+                }
+                StringBuilder text = new StringBuilder(texts[i]);
+                text.setCharAt(at + k, 'z');
+                Due.broken(text.toString(), at);
+                Due.broken(new StringBuilder(texts[i]).insert(at + k, 'z').toString(), at);
+            }
+        }
+    }
+
     private static void oneLetter() {
         Due.sentence("one letter: a PLACE or REGISTER");
         for (char c : "azAZ".toCharArray()) {
@@ -294,6 +319,25 @@ public final class TextBoundsTest {
             }
             Due.broken("% " + text, 0);
             Due.broken(text + " %", text.length() + 1);
+        }
+    }
+
+    private static void expressionsThatLackSomething() {
+        Due.sentence("SUM: PRODUCT {+ or - PRODUCT}. PRODUCT: SIMPLE {* SIMPLE}. "
+                + "SIMPLE: NUMBER, PLACE, REGISTER, ( EXPR ), - SIMPLE.");
+        // Each lacks something just ahead of its last closing sign, which could stand there but for that.
+        for (String expr : new String[] {"", "1+", "1-", "1*", "1==", "1<", "-", "--", "1+-", "1*-", "x*y+", "x==-", "x<A*"}) {
+            Due.broken("x=" + expr + ";", 2 + expr.length());
+            Due.broken("A=" + expr + ";", 2 + expr.length());
+            Due.broken("say " + expr + ";", 4 + expr.length());
+            Due.broken("fail " + expr + ";", 5 + expr.length());
+            Due.broken("x=(" + expr + ");", 3 + expr.length());
+            Due.broken("x=1*(" + expr + ")+1;", 5 + expr.length());
+            Due.broken("if(" + expr + "){}", 3 + expr.length());
+            Due.broken("while(" + expr + "){}", 6 + expr.length());
+        }
+        for (String expr : new String[] {"+1", "*1", "==1", "<1", "(1", "((1)", "1 1", "1x", "x A", "1(1)", "(1)(1)", "1)"}) {
+            Due.is("x=" + expr + ";", Due.UNSUPPORTED, () -> Due.tell(new AsOneHouse(), 0, "x=" + expr + ";"));
         }
     }
 
@@ -513,10 +557,22 @@ public final class TextBoundsTest {
         Due.broken(" ".repeat(999) + "x", 1000);
         Due.broken("x" + " ".repeat(999), 1000);
         Due.broken("A=1;".repeat(249) + "A=1 ", 1000);
+    }
+
+    private static void whatWasCutOff() {
+        Due.sentence("the length if something lacks");
+        // What the tape had behind its end is never looked at, also if it would go on well.
+        String[] texts = {"x=1;", "x=1;y=2;", "x==1;", "x=12;", "sayx;", "say 1;", "atom{}", "A=1000000;"};
+        int[] ends = {3, 7, 2, 3, 3, 5, 5, 6};
+        for (int i = 0; i < texts.length; i++) {
+            AsOneHouse h = new AsOneHouse();
+            Due.type(h, texts[i]);
+            h.end(ends[i]);
+            Due.is(texts[i] + " up to " + ends[i], Due.UNSUPPORTED, () -> h.program(0));
+            Due.is(texts[i] + " up to " + ends[i] + " lacks something", ends[i], h::place);
+        }
         AsOneHouse h = new AsOneHouse();
-        Due.type(h, "x=1;y=2;");
-        h.end(7);
-        Due.is("what was cut off is not read", Due.UNSUPPORTED, () -> h.program(0));
-        Due.is("it lacks", 7, h::place);
+        Due.tell(h, 0, "x=1;y=2;z=3;");
+        Due.is("a text that was there before", 1, () -> Due.tell(h, 0, "w=1;"));
     }
 }

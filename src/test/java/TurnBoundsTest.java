@@ -17,10 +17,12 @@ public final class TurnBoundsTest {
             allPlacesWritten(way);
             registersAreAsTheyWere(way);
             readsOfAPartComeOut(way);
+            readsComeOneLevelOut(way);
             readsOfTheBlockStay(way);
             innermostWrites(way);
             outsideIsAtOnce(way);
             retryWithinOr(way);
+            retryOfALaterPart(way);
             asleepWithoutReads(way);
             asleepStill(way);
             quitOfTheInnermost(way);
@@ -291,6 +293,41 @@ public final class TurnBoundsTest {
         }
     }
 
+    private static void readsComeOneLevelOut(int way) {
+        Due.sentence("come to the LEVEL around it");
+        String[] leaves = {"part{A=x;quit;}", "part{A=x;retry;}or{}", "part{part{A=x;retry;}}or{}", "part{A=x;}",
+            "try{part{A=x;fail 1;}}catch E{}", "try{part{part{A=x;fail 1;}}}catch E{}"};
+        int[] acts = {2, 2, 2, 1, 1, 1};
+        for (int i = 0; i < leaves.length; i++) {
+            AsOneHouse h = Due.house(way);
+            int turns = 3 + acts[i] + 1;
+            Due.tell(h, 0, "atom{A=w;part{A=v;" + leaves[i] + "A=z;A=u;}}");
+            Due.is("begin, w, v, x, leave, z", turns, () -> h.round(turns));
+            Due.looks(h, 0, leaves[i], 2, 2, 4);
+            h.put(23, 1);
+            h.put(20, 1);
+            if (way == 2 || way == 4) {
+                Due.turns(h, leaves[i] + ", u", "0:0");
+                Due.looks(h, 0, leaves[i], 2, 2, 5);
+            } else {
+                // That the part restarts tells that the read of x is no more of the level within, nor of the block yet.
+                Due.turns(h, leaves[i] + ", u: x is wrong", "0:1");
+                Due.looks(h, 0, leaves[i], 2, 2, 1, 0, 1, 2);
+            }
+        }
+        AsOneHouse h = Due.house(way);
+        Due.tell(h, 0, "atom{A=w;part{A=v;part{A=x;retry;}or{A=y;A=u;}}}");
+        Due.turns(h, "w, v, x", "0:0 0:0 0:0 0:0");
+        Due.looks(h, 0, "in the first block", 2, 3, 3);
+        Due.turns(h, "retry", "0:0");
+        Due.looks(h, 0, "w, and v, x", 2, 3, 3);
+        Due.turns(h, "y", "0:0");
+        h.put(23, 1);
+        h.put(20, 1);
+        Due.turns(h, "u", way == 2 || way == 4 ? "0:0" : "0:1");
+        Due.is("levels", way == 2 || way == 4 ? 3 : 2, () -> h.look(0, 1));
+    }
+
     private static void readsOfTheBlockStay(int way) {
         Due.sentence("(those of LEVEL 0, by a retry that goes on with its or BLOCK, stay)");
         AsOneHouse h = Due.house(way);
@@ -344,6 +381,15 @@ public final class TurnBoundsTest {
         Due.turns(h, "nor here", "1:0 1:0 1:3");
         Due.tell(h, 2, "atom{part{}or{}retry;}");
         Due.turns(h, "one that it is not in does not count", "2:0 2:3");
+    }
+
+    private static void retryOfALaterPart(int way) {
+        Due.sentence("retry: the innermost LEVEL with an or BLOCK in whose first BLOCK it is: is TAKEN BACK, "
+                + "and those within; it goes on with its or BLOCK");
+        acts(way, "atom{part{retry;}or{}part{retry;}or{say 1;}}", 5);
+        acts(way, "atom{retry;}or{}atom{retry;}or{say 1;}", 3 + 4);
+        acts(way, "atom{part{retry;}or{part{retry;}or{say 1;}}}", 5);
+        acts(way, "while(A<3){A=A+1;atom{part{part{retry;}}or{say 1;}}}", 3 * 5);
     }
 
     private static void asleepWithoutReads(int way) {

@@ -1,7 +1,13 @@
 /** Terms, the ways and conflicts: a test of its own for each sentence that names a boundary case. */
 public final class WayBoundsTest {
     public static void main(String[] args) {
+        for (int way = 0; way <= 4; way++) {
+            for (int p = 0; p < 26; p++) {
+                eachPlace(way, p);
+            }
+        }
         clockAndVersionsAt0();
+        versionsAfterStart();
         writtenAsTheyWere();
         outsideLikewise();
         clockLook();
@@ -19,6 +25,7 @@ public final class WayBoundsTest {
         keptReadIsWrong();
         keptWriteOfItsOwn();
         keptEnd();
+        keptEndWithoutReads();
         keptTakenIsFree();
         keptTakenBackByOr();
         keptTakenBackOfNothing();
@@ -31,9 +38,40 @@ public final class WayBoundsTest {
         conflictOfTheInnermost();
         conflictGoesOnAtTheBegin();
         conflictWasAnAct();
+        conflictWithinAnExpression();
         wakingIsBusy();
         takenWakesNobody();
         Due.end();
+    }
+
+    /** What a way does with a place it does with each of them, the first and the last too. */
+    private static void eachPlace(int way, int p) {
+        Due.sentence("PLACES a .. z are shared");
+        String letter = String.valueOf((char) ('a' + p));
+        String other = String.valueOf((char) ('a' + (p + 1) % 26));
+        String what = "way " + way + ", " + letter;
+        AsOneHouse h = Due.house(way);
+        Due.tell(h, 0, ("atom{A=%;" + other + "=1;}").replace("%", letter));
+        Due.turns(h, what + " is read", "0:0 0:0");
+        h.put(p, 1);
+        Due.turns(h, what + " is late", way == 3 ? "0:1" : way == 4 ? "0:0 0:0" : "0:0 0:1");
+        h.start(way);
+        Due.tell(h, 0, "atom{part{%=1;}part{%=2;A=%;quit;}}atom{%=3;A=%;quit;}".replace("%", letter));
+        Due.turns(h, what + " is written in parts", "0:0 0:0 0:0 0:0");
+        Due.is(what + " is no read", 0, () -> h.look(0, 2));
+        Due.turns(h, what + " is taken back", "0:0 0:0");
+        Due.is(what + " has", 1, () -> h.has(p));
+        Due.is(what + " had", 1, () -> h.had(p, 1));
+        Due.is(what + " was written", 1, () -> h.record(0, 2));
+        Due.turns(h, what + " is taken back", "0:0 0:0 0:0 0:0 0:2");
+        Due.is(what + " has", 1, () -> h.has(p));
+        Due.is(what + ": judge", 1, h::judge);
+        h.start(way);
+        Due.tell(h, 0, "atom{A=%;retry;}".replace("%", letter));
+        Due.turns(h, what + ": asleep", "0:0 0:0 0:3");
+        Due.tell(h, 1, "atom{%=1;say 1;}".replace("%", letter));
+        Due.turns(h, what + " is written, or taken, by one that has not ended", "1:0 1:0 0:3");
+        Due.turns(h, what + " wakes it", "1:0 1:0 0:6");
     }
 
     private static void clockAndVersionsAt0() {
@@ -44,6 +82,24 @@ public final class WayBoundsTest {
             Due.tell(h, 0, "atom{y=x;}");
             Due.turns(h, "what was never changed is never late", "0:0 0:0 0:0 0:0 0:2");
             Due.is("clock", 1, () -> h.count(2));
+        }
+    }
+
+    private static void versionsAfterStart() {
+        Due.sentence("VERSION of a PLACE: the CLOCK when it was changed last (0 at first)");
+        for (int way = 0; way <= 4; way++) {
+            AsOneHouse h = Due.house(way);
+            Due.tell(h, 0, "atom{y=x;}");
+            h.put(0, 7);
+            h.put(23, 7);
+            h.put(23, 8);
+            h.start(way);
+            Due.turns(h, "what was changed ahead of start is not late", "0:0 0:0 0:0 0:0 0:2");
+            Due.is("y", 0, () -> h.has(24));
+            h.put(25, 5);
+            Due.is("had z", 5, () -> h.had(25, 2));
+            Due.is("had a", 0, () -> h.had(0, 2));
+            Due.is("had x", 0, () -> h.had(23, 2));
         }
     }
 
@@ -269,6 +325,12 @@ public final class WayBoundsTest {
         Due.turns(h, "1 ends, and begins anew behind 0", "1:0 1:0 1:0 1:0 0:0");
         Due.turns(h, "now 1 loses: what counts is the begin of each block", "0:0");
         Due.is("1 restarted", 1, () -> h.look(1, 4));
+        h.start(3);
+        Due.tell(h, 0, "atom{if(y==0){retry;}x=1;}");
+        Due.turns(h, "0 begins and sleeps, 1 begins and takes x", "0:0 0:0 0:3 1:0 1:0");
+        h.put(24, 1);
+        Due.turns(h, "0 wakes, and has begun first all the same", "0:6 0:0 0:0");
+        Due.is("1 restarted", 1, () -> h.look(1, 4));
     }
 
     private static void keptThisOneLoses() {
@@ -355,6 +417,24 @@ public final class WayBoundsTest {
         Due.turns(h, "nothing is wrong", "0:0 0:0 0:0 0:0 0:2");
     }
 
+    private static void keptEndWithoutReads() {
+        Due.sentence("RIVALS for each PLACE of READS");
+        AsOneHouse h = Due.house(3);
+        Due.tell(h, 0, "atom{x=1;}");
+        Due.tell(h, 1, "atom{a=1;A=w;}");
+        Due.turns(h, "1 takes a", "0:0 1:0 1:0 0:0");
+        Due.turns(h, "0 has read nothing", "0:0");
+        Due.is("1 is as it was", 0, () -> h.look(1, 4));
+        h.start(3);
+        Due.tell(h, 0, "atom{if(z==0){A=y;A=y;}A=z;}");
+        Due.turns(h, "0 reads z and y", "0:0 1:0 0:0 0:0");
+        h.put(25, 1);
+        Due.turns(h, "0 restarts, reads z and z", "0:1 0:0 0:0");
+        Due.tell(h, 2, "atom{y=1;A=w;}");
+        Due.turns(h, "2 takes y, 0 ends", "2:0 2:0 0:0");
+        Due.is("reads that went are none", 0, () -> h.look(2, 4));
+    }
+
     private static void keptTakenIsFree() {
         Due.sentence("then all that it has TAKEN is free, with DONE'S CLOCK and VERSION");
         for (int way = 3; way <= 4; way++) {
@@ -377,6 +457,15 @@ public final class WayBoundsTest {
         Due.tell(h, 1, "atom{x=0;}");
         Due.turns(h, "0 reads x, 1 writes it as it was, and ends", "0:0 0:0 1:0 1:0 1:0");
         Due.turns(h, "x has another version", "0:1");
+        for (String text : new String[] {"atom{y=1;part{x=1;quit;}}", "atom{part{x=1;quit;}say 1;}"}) {
+            AsOneHouse g = Due.house(3);
+            Due.tell(g, 0, "atom{A=x;A=w;}");
+            Due.tell(g, 1, text);
+            Due.turns(g, "0 reads x, 1 takes it, but writes it not in the end", "0:0 0:0 1:0 1:0 1:0 1:0 1:0");
+            Due.is("1 ended", 1, () -> g.look(1, 7));
+            Due.is("clock", 1, () -> g.count(2));
+            Due.turns(g, "what was taken has another version", "0:1");
+        }
     }
 
     private static void keptTakenBackByOr() {
@@ -594,6 +683,19 @@ public final class WayBoundsTest {
         Due.turns(h, "x", "0:0");
         Due.is("A", 1, () -> h.register(0, 0));
         Due.is("turns", 3, () -> h.count(3));
+    }
+
+    private static void conflictWithinAnExpression() {
+        Due.sentence("it goes on at its begin");
+        AsOneHouse h = Due.house(0);
+        Due.tell(h, 0, "atom{A=1+(1+(1+(1+(1+(1+(1+(1+x)))))));}");
+        Due.turns(h, "begin", "0:0");
+        for (int i = 0; i < 40; i++) {
+            h.put(23, i);
+            Due.turns(h, "x is late, time " + i, "0:1");
+        }
+        Due.turns(h, "x, end", "0:0 0:0");
+        Due.is("A", 8 + 39, () -> h.register(0, 0));
     }
 
     private static void wakingIsBusy() {
