@@ -588,8 +588,8 @@ public final class AsOneHouse {
                 case Scanner.WHILE: return whileStatement(within, depth);
                 case Scanner.SAY: return valueStatement(Code.SAY, depth);
                 case Scanner.FAIL: return valueStatement(Code.FAIL, depth);
-                case Scanner.ATOM: return levelStatement(within, within, depth);
-                case Scanner.PART: return levelStatement(within, false, depth);
+                case Scanner.ATOM: return levelStatement(within, depth);
+                case Scanner.PART: return levelStatement(false, depth);
                 case Scanner.RETRY: return bareStatement(Code.RETRY, within);
                 case Scanner.QUIT: return bareStatement(Code.QUIT, within);
                 case Scanner.TRY: return tryStatement(within, depth);
@@ -669,7 +669,7 @@ public final class AsOneHouse {
         }
 
         /** An atom that melts is no level of its own, if no or follows it. */
-        private boolean levelStatement(boolean within, boolean melts, int depth) {
+        private boolean levelStatement(boolean melts, int depth) {
             scanner.advance();
             int begin = code.add(Code.BEGIN, -1);
             if (!block(true, depth)) {
